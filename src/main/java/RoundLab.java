@@ -184,7 +184,7 @@ public final class RoundLab {
         requireBetween(kind, 0, LAST_KIND);
         requireProgram();
         search.prepare(n, kind);
-        return search.go(rounds, d);
+        return search.searchRuns(rounds, d);
     }
 
     public int trace(int i) throws NoSuchElementException {
@@ -666,7 +666,7 @@ public final class RoundLab {
         }
 
         /** The answer that is due for the search. */
-        int go(int rounds, int d) {
+        int searchRuns(int rounds, int d) {
             Arrays.fill(table, 0);
             findFirstStates(d);
             int first = 0;

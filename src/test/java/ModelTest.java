@@ -3,8 +3,6 @@ import java.util.List;
 
 /** Made-up programs, runs and searches, and rows of 512 calls in any order, against the model. */
 public final class ModelTest {
-    private static final int HEARING_WORDS = 7;
-
     private final Dice dice = new Dice(20261115);
     private final int[] outcomes = new int[5];
 
@@ -61,7 +59,7 @@ public final class ModelTest {
     }
 
     private void expression(List<Integer> words, int variables, boolean hears, int depth) {
-        boolean leaf = depth == 1 || oneOfMany();
+        boolean leaf = depth == 1 || dice.oneOf(3);
         if (leaf && hears && dice.oneOf(2)) {
             words.add(35 + dice.below(5));
         } else if (leaf) {
@@ -76,10 +74,6 @@ public final class ModelTest {
                 expression(words, variables, hears, depth - 1);
             }
         }
-    }
-
-    private boolean oneOfMany() {
-        return dice.oneOf(3);
     }
 
     /** A program without an error, as a rule; one that is too long for the object may be cut. */
@@ -194,7 +188,7 @@ public final class ModelTest {
         int changes = dice.below(3);
         for (int k = 0; k < changes; k++) {
             int place = dice.below(words.size());
-            int word = dice.oneOf(3) ? 95 + dice.below(15) : dice.below(44 + HEARING_WORDS) - HEARING_WORDS;
+            int word = dice.oneOf(3) ? 95 + dice.below(15) : dice.below(50) - 5;
             switch (dice.below(3)) {
                 case 0 -> words.set(place, word);
                 case 1 -> words.remove(place);

@@ -18,6 +18,7 @@ public final class SearchTest {
         twoHundredStates();
         violationBehindTheLastState();
         firstWayCounts();
+        longestTrace();
         whatStaysOfASearch();
         builtins();
         Checks.finish();
@@ -175,6 +176,13 @@ public final class SearchTest {
         RoundLab lab = Checks.checked(1, 3, 4, 3, 1, 31, 30, 27, 102, 26, 1, 35, 4, 0, 101, 40, 1);
         searched(lab, by(2, 3, 1, 0), 2, 9, 0, 0, 0, 2, 0, 3);
         searched(lab, by(3, 3, 1, 1), 2, 9, 0, 0, 0, 3, 3, 3, 3, 3, 3);
+    }
+
+    /** All decide wrongly in the last round that can be searched. */
+    private static void longestTrace() {
+        RoundLab lab = Checks.checked(1, 2, 4, 3, 101, 30, 25, 33, 4, 4, 0, 101);
+        searched(lab, by(3, 5, 1, 3), 2, 5, 0, 0, 0, 7, 7, 7, 7, 7, 7, 7, 7, 7, 7, 7, 7, 7, 7, 7);
+        searched(lab, by(3, 4, 1, 3), 0, 5);
     }
 
     private static void whatStaysOfASearch() {

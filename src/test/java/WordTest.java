@@ -215,5 +215,14 @@ public final class WordTest {
         hears(0, values, 0, 40, 0);
         hears(0, values, 0, 41, 0);
         hears(1, values, 0, 29, 35);
+        // Nor does one that hears none learn what the one before it has heard.
+        for (int word = 35; word <= 39; word++) {
+            RoundLab lab = Checks.checked(1, 2, 15, 15, 101, word, 101);
+            Checks.inputs(lab, 7, 7);
+            lab.start(2);
+            lab.hear(1, 0);
+            lab.round();
+            Checks.due("of none, behind one who hears: " + word, 0, () -> lab.state(1, 0));
+        }
     }
 }
