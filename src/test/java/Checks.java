@@ -1,3 +1,5 @@
+import java.util.ArrayList;
+import java.util.List;
 import java.util.NoSuchElementException;
 
 /** What all tests share: calls are compared with what is due, and wrong answers are printed. */
@@ -8,6 +10,8 @@ final class Checks {
 
     private static int done = 0;
     private static int wrong = 0;
+    private static int sentences = 0;
+    private static String about = "";
 
     private Checks() {
     }
@@ -16,135 +20,124 @@ final class Checks {
         int answer();
     }
 
-    static void due(String what, int want, Call call) {
-        String got;
+    /** The test of one sentence of the document, whose words are told with each wrong answer. */
+    static void sentence(String where, String words, Runnable test) {
+        int before = done;
+        about = where + " \"" + words + "\": ";
+        sentences++;
         try {
-            got = String.valueOf(call.answer());
+            test.run();
         } catch (RuntimeException e) {
-            got = e.getClass().getSimpleName();
+            compare("the test", "ends", "is stopped by " + e);
         }
-        compare(what, String.valueOf(want), got);
+        compare("the test", "looks at something", done > before ? "looks at something" : "is empty");
+        about = "";
+    }
+
+    static void due(String what, int want, Call call) {
+        compare(what, String.valueOf(want), answer(call));
     }
 
     /** The call must throw just this exception, and change nothing that can be seen. */
-    static void refused(String what, Class<? extends RuntimeException> want, RoundLab lab, Call call) {
-        String before = seen(lab);
-        String got;
-        try {
-            got = String.valueOf(call.answer());
-        } catch (RuntimeException e) {
-            got = e.getClass().getSimpleName();
-        }
-        compare(what, want.getSimpleName(), got);
-        compare(what + " changes nothing", before, seen(lab));
+    static void refused(String what, Class<? extends RuntimeException> want, Lab lab, Call call) {
+        int before = lab.calls();
+        compare(what, want.getSimpleName(), answer(call));
+        compare(what + " is one call", String.valueOf(before + 1), String.valueOf(lab.calls()));
+        compare(what + " changes nothing", seen(lab, before), seen(lab, before + 1));
     }
 
     static void compare(String what, String want, String got) {
         done++;
         if (!want.equals(got)) {
             wrong++;
-            System.out.println(what + ": answered " + got + ", due is " + want);
+            System.out.println(about + what + ": answered " + got + ", due is " + want);
         }
     }
 
     static void finish() {
-        System.out.println(done + " checks, " + wrong + " wrong");
+        String tested = sentences == 0 ? "" : sentences + " sentences, ";
+        System.out.println(tested + done + " checks, " + wrong + " wrong");
         if (wrong != 0 || done == 0) {
             System.exit(1);
         }
     }
 
-    /** A new object with these words. */
-    static RoundLab of(int... words) {
-        RoundLab lab = new RoundLab();
-        for (int word : words) {
-            lab.word(word);
-        }
-        return lab;
-    }
-
-    /** A new object with these words as a checked program. */
-    static RoundLab checked(int... words) {
-        RoundLab lab = of(words);
-        int error = lab.check();
-        compare("check() of a test's program", "0", String.valueOf(error));
-        return lab;
-    }
-
-    static int start(RoundLab lab, int n) {
-        lab.start(n);
-        return 0;
-    }
-
-    static void inputs(RoundLab lab, int... values) {
-        for (int p = 0; p < values.length; p++) {
-            lab.input(p, values[p]);
-        }
-    }
-
-    static int rounds(RoundLab lab, int howMany) {
-        int answer = lab.count(3);
-        for (int r = 0; r < howMany; r++) {
-            answer = lab.round();
-        }
-        return answer;
-    }
-
-    /** All that an object answers, as one text; afterwards the object is as it was. */
-    static String seen(RoundLab lab) {
-        StringBuilder text = new StringBuilder();
-        for (int what = 0; what < 6; what++) {
-            text.append(lab.count(what)).append(what < 5 ? ' ' : '\n');
-        }
-        for (int i = 0; i < lab.count(0); i++) {
-            text.append(lab.at(i)).append(' ');
-        }
-        text.append("\ntrace");
-        for (int i = 0; i < 20; i++) {
-            int place = i;
-            text.append(' ').append(orRefusal(() -> lab.trace(place)));
-        }
-        text.append("\ninputs");
-        for (int p = 0; p < 7; p++) {
-            int value = lab.input(p, 0);
-            lab.input(p, value);
-            text.append(' ').append(value);
-        }
-        text.append("\ndeep");
-        for (int phase = 0; phase < 4; phase++) {
-            for (int part = -1; part < 5; part++) {
-                int h = phase;
-                int t = part;
-                text.append(' ').append(orRefusal(() -> lab.deep(h, t)));
-            }
-        }
-        return text + run(lab);
-    }
-
-    private static String run(RoundLab lab) {
-        StringBuilder text = new StringBuilder("\nrun");
-        for (int p = 0; p < 7; p++) {
-            int process = p;
-            text.append("; ").append(orRefusal(() -> lab.message(process)));
-            text.append(' ').append(orRefusal(() -> lab.decided(process)));
-            for (int v = 0; v < 5; v++) {
-                int variable = v;
-                text.append(' ').append(orRefusal(() -> lab.state(process, variable)));
-            }
-            text.append(' ').append(orRefusal(() -> {
-                int set = lab.hear(process, 0);
-                lab.hear(process, set);
-                return set;
-            }));
-        }
-        return text.toString();
-    }
-
-    private static String orRefusal(Call call) {
+    static String answer(Call call) {
         try {
             return String.valueOf(call.answer());
         } catch (RuntimeException e) {
-            return e.getClass().getSimpleName().substring(0, 9);
+            return e.getClass().getSimpleName();
         }
+    }
+
+    /**
+     * All that an object answers behind its first calls, as one text, also when a round is added.
+     * Twins of the object are asked, so that it stays as it is; each has only some calls left.
+     */
+    private static String seen(Lab lab, int calls) {
+        StringBuilder text = new StringBuilder();
+        int left = lab.callsLeft();
+        look(text, lab, calls, List.of(), looks(), left);
+        look(text, lab, calls, List.of(RoundLab::round), looksAtRun(), left);
+        return text.toString();
+    }
+
+    private static void look(StringBuilder text, Lab lab, int calls, List<Lab.Step> ahead,
+            List<Lab.Step> looks, int left) {
+        int some = left - ahead.size();
+        if (some < 1) {
+            throw new AssertionError("no calls are left to look at an object");
+        }
+        for (int from = 0; from < looks.size(); from += some) {
+            Lab twin = lab.twin(calls);
+            for (Lab.Step step : ahead) {
+                text.append(answer(() -> twin.call(step))).append(':');
+            }
+            for (Lab.Step step : looks.subList(from, Math.min(from + some, looks.size()))) {
+                text.append(' ').append(answer(() -> twin.call(step)));
+            }
+        }
+    }
+
+    private static List<Lab.Step> looks() {
+        List<Lab.Step> looks = new ArrayList<>();
+        for (int k = 0; k < 6; k++) {
+            int what = k;
+            looks.add(lab -> lab.count(what));
+        }
+        for (int k = 0; k < 400; k++) {
+            int place = k;
+            looks.add(lab -> lab.at(place));
+        }
+        for (int k = 0; k < 19; k++) {
+            int place = k;
+            looks.add(lab -> lab.trace(place));
+        }
+        for (int k = 0; k < 24; k++) {
+            int phase = k / 6;
+            int part = k % 6 - 1;
+            looks.add(lab -> lab.deep(phase, part));
+        }
+        for (int k = 0; k < 7; k++) {
+            int p = k;
+            looks.add(lab -> lab.input(p, 0));
+            looks.add(lab -> lab.hear(p, 0));
+        }
+        looks.addAll(looksAtRun());
+        return looks;
+    }
+
+    private static List<Lab.Step> looksAtRun() {
+        List<Lab.Step> looks = new ArrayList<>();
+        for (int k = 0; k < 7; k++) {
+            int p = k;
+            looks.add(lab -> lab.message(p));
+            looks.add(lab -> lab.decided(p));
+            for (int v = 0; v < 5; v++) {
+                int variable = v;
+                looks.add(lab -> lab.state(p, variable));
+            }
+        }
+        return looks;
     }
 }

@@ -29,13 +29,13 @@ public final class ModelTest {
         for (int k = 0; k < 300; k++) {
             test.search(k);
         }
-        for (int k = 0; k < 300; k++) {
+        for (int k = 0; k < 500; k++) {
             test.run(k);
         }
         for (int k = 0; k < 4000; k++) {
             test.errors(k);
         }
-        for (int k = 0; k < 150; k++) {
+        for (int k = 0; k < 300; k++) {
             test.calls(k);
         }
         for (int outcome = -1; outcome <= 3; outcome++) {
@@ -46,16 +46,8 @@ public final class ModelTest {
         Checks.finish();
     }
 
-    private static String answer(Checks.Call call) {
-        try {
-            return String.valueOf(call.answer());
-        } catch (RuntimeException e) {
-            return e.getClass().getSimpleName();
-        }
-    }
-
     private void same(String what, Checks.Call model, Checks.Call lab) {
-        Checks.compare(what, answer(model), answer(lab));
+        Checks.compare(what, Checks.answer(model), Checks.answer(lab));
     }
 
     private void expression(List<Integer> words, int variables, boolean hears, int depth) {
@@ -104,7 +96,7 @@ public final class ModelTest {
         return words.subList(0, Math.min(400, words.size()));
     }
 
-    private void give(List<Integer> words, Model model, RoundLab lab) {
+    private void give(List<Integer> words, Model model, Lab lab) {
         for (int word : words) {
             model.word(word);
             lab.word(word);
@@ -113,7 +105,7 @@ public final class ModelTest {
 
     private void search(int number) {
         Model model = new Model();
-        RoundLab lab = new RoundLab();
+        Lab lab = new Lab();
         List<Integer> words = program(4);
         if (number % 10 < 3) {
             model.builtin(number % 10);
@@ -128,8 +120,8 @@ public final class ModelTest {
             int d = 1 + dice.below(3);
             int kind = dice.below(4);
             String what = "search of " + words + " by " + n + ", " + rounds + ", " + d + ", " + kind;
-            String due = answer(() -> model.explore(n, rounds, d, kind));
-            Checks.compare(what, due, answer(() -> lab.explore(n, rounds, d, kind)));
+            String due = Checks.answer(() -> model.explore(n, rounds, d, kind));
+            Checks.compare(what, due, Checks.answer(() -> lab.explore(n, rounds, d, kind)));
             if (model.count(1) == 1) {
                 outcomes[Integer.parseInt(due) + 1]++;
             }
@@ -144,7 +136,7 @@ public final class ModelTest {
 
     private void run(int number) {
         Model model = new Model();
-        RoundLab lab = new RoundLab();
+        Lab lab = new Lab();
         List<Integer> words = program(number % 3 == 0 ? 9 : 5);
         give(words, model, lab);
         same("check of " + words, model::check, lab::check);
@@ -159,7 +151,9 @@ public final class ModelTest {
         }
         model.start(n);
         lab.start(n);
-        for (int r = 0; r < 20; r++) {
+        // A round is looked at by one call for each set, each message, decision and variable.
+        int callsOfRound = 1 + n * (1 + 2 + 5);
+        for (int r = 0; lab.callsLeft() >= callsOfRound; r++) {
             for (int p = 0; p < n; p++) {
                 int process = p;
                 int set = dice.below(1 << n);
@@ -183,7 +177,7 @@ public final class ModelTest {
     /** A program with some words changed, left out or put in: where its first error is. */
     private void errors(int number) {
         Model model = new Model();
-        RoundLab lab = new RoundLab();
+        Lab lab = new Lab();
         List<Integer> words = new ArrayList<>(program(number % 4 == 0 ? 14 : 4));
         int changes = dice.below(3);
         for (int k = 0; k < changes; k++) {
@@ -209,10 +203,10 @@ public final class ModelTest {
     /** 512 calls of all methods in any order, with numbers of which some are wrong. */
     private void calls(int number) {
         Model model = new Model();
-        RoundLab lab = new RoundLab();
+        Lab lab = new Lab();
         List<Integer> words = program(3);
         int given = 0;
-        for (int c = 0; c < 512; c++) {
+        for (int c = 0; lab.callsLeft() > 0; c++) {
             int a = dice.below(10) - 1;
             int b = dice.oneOf(4) ? dice.below(128) : dice.below(6) - 1;
             String what = "call " + c + " of row " + number + " with " + a + ", " + b;
@@ -230,7 +224,8 @@ public final class ModelTest {
                     }
                 }
                 case 3, 4, 5 -> {
-                    if (model.count(0) == 0 && given == 0) {
+                    boolean fits = lab.callsLeft() > words.size();
+                    if (model.count(0) == 0 && given == 0 && fits) {
                         give(words, model, lab);
                         given = words.size();
                         words = program(3);
@@ -239,7 +234,7 @@ public final class ModelTest {
                 }
                 case 6 -> same(what + ": deep", () -> model.deep(a, b), () -> lab.deep(a, b));
                 case 7, 8 -> same(what + ": input", () -> model.input(a, b), () -> lab.input(a, b));
-                case 9, 10 -> same(what + ": start", () -> model.start(a), () -> Checks.start(lab, a));
+                case 9, 10 -> same(what + ": start", () -> model.start(a), () -> lab.start(a));
                 case 11, 12 -> same(what + ": hear", () -> model.hear(a, b), () -> lab.hear(a, b));
                 case 13, 14, 15 -> same(what + ": round", model::round, lab::round);
                 case 16, 17 -> same(what + ": state", () -> model.state(a, b), () -> lab.state(a, b));

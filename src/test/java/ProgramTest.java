@@ -1,24 +1,7 @@
 import java.util.Arrays;
 
 /** Promises 1 to 6, 16 and what promise 17 counts of words: programs and their errors. */
-public final class ProgramTest {
-    /** One phase, two variables with ranges 15 and 15; the expressions are still to come. */
-    private static final int[] HEAD = {1, 2, 15, 15};
-
-    private static final int[][] BUILTINS = {
-        {1, 2, 4, 3, 101, 30, 100, 100, 30, 26, 20, 32, 32, 20, 39, 20, 39, 39, 20, 38, 1, 0,
-            30, 26, 20, 32, 32, 20, 35, 20, 35, 35, 38, 101},
-        {2, 3, 4, 3, 4, 101, 100, 36, 30, 27, 35, 25, 39, 35, 20, 38, 1, 0, 20, 22, 4, 102, 101,
-            30, 100, 100, 30, 27, 25, 23, 36, 4, 23, 37, 4, 23, 36, 4, 23, 37, 4, 0,
-            30, 26, 3, 37, 21, 23, 37, 4, 1, 36, 102},
-        {4, 5, 4, 3, 15, 4, 1, 20, 22, 4, 102, 101, 100, 101, 102,
-            30, 27, 25, 31, 34, 26, 32, 20, 35, 35, 20, 24, 37, 4, 1, 0, 104,
-            103, 100, 30, 41, 34, 21, 41, 34, 1, 101, 30, 41, 34, 20, 33, 1, 102, 103, 104,
-            25, 102, 20, 33, 1, 100, 101, 102, 103,
-            27, 27, 25, 31, 34, 103, 26, 32, 20, 40, 1, 40, 1,
-            30, 104, 103, 0, 30, 100, 100, 41, 34, 101, 102, 0, 0},
-    };
-
+public final class ProgramTest extends Programs {
     public static void main(String[] args) {
         newObject();
         words();
@@ -36,7 +19,7 @@ public final class ProgramTest {
     }
 
     private static void newObject() {
-        RoundLab lab = new RoundLab();
+        Lab lab = new Lab();
         int[] due = {0, 0, 0, 0, 0, RoundLab.NONE};
         for (int what = 0; what < due.length; what++) {
             int k = what;
@@ -45,7 +28,7 @@ public final class ProgramTest {
         Checks.refused("new: at(0)", Checks.NO_ELEMENT, lab, () -> lab.at(0));
         Checks.refused("new: trace(0)", Checks.NO_ELEMENT, lab, () -> lab.trace(0));
         Checks.refused("new: round()", Checks.STATE, lab, lab::round);
-        Checks.refused("new: start(1)", Checks.STATE, lab, () -> Checks.start(lab, 1));
+        Checks.refused("new: start(1)", Checks.STATE, lab, () -> lab.start(1));
         Checks.refused("new: explore", Checks.STATE, lab, () -> lab.explore(1, 0, 1, 0));
         for (int p = 0; p < 7; p++) {
             int process = p;
@@ -54,7 +37,7 @@ public final class ProgramTest {
     }
 
     private static void words() {
-        RoundLab lab = new RoundLab();
+        Lab lab = new Lab();
         int[] odd = {Integer.MIN_VALUE, Integer.MAX_VALUE, -1, 0, 16};
         for (int i = 0; i < 400; i++) {
             int k = i;
@@ -73,7 +56,7 @@ public final class ProgramTest {
 
     private static void builtins() {
         int[] deepOfMessage = {1, 1, 3};
-        RoundLab lab = Checks.of(1, 2, 3);
+        Lab lab = of(1, 2, 3);
         for (int k = 0; k < BUILTINS.length; k++) {
             int which = k;
             int[] due = BUILTINS[k];
@@ -87,14 +70,14 @@ public final class ProgramTest {
             Checks.due("check() of builtin " + k, 0, lab::check);
             Checks.due("its message's depth", deepOfMessage[k], () -> lab.deep(0, -1));
         }
-        Checks.start(lab, 2);
+        lab.start(2);
         for (int k : new int[] {-1, 3, Integer.MAX_VALUE, Integer.MIN_VALUE}) {
             Checks.refused("builtin(" + k + ")", Checks.NO_ELEMENT, lab, () -> lab.builtin(k));
         }
     }
 
     private static void clearing() {
-        RoundLab lab = Checks.of(7, 8, 9);
+        Lab lab = of(7, 8, 9);
         lab.input(3, 11);
         Checks.due("clear() of three", 3, lab::clear);
         Checks.due("clear() of none", 0, lab::clear);
@@ -106,9 +89,9 @@ public final class ProgramTest {
 
     private static void whatEndsWithTheWords() {
         for (int way = 0; way < 4; way++) {
-            RoundLab lab = Checks.checked(BUILTINS[0]);
+            Lab lab = checked(BUILTINS[0]);
             lab.explore(2, 1, 2, 0);
-            Checks.start(lab, 3);
+            lab.start(3);
             lab.round();
             int how = way;
             int[] due = {35, 34, 34, 0};
@@ -120,14 +103,14 @@ public final class ProgramTest {
             Checks.refused("round after way " + way, Checks.STATE, lab, lab::round);
             if (how != 2) {
                 Checks.refused("deep after way " + way, Checks.STATE, lab, () -> lab.deep(0, 0));
-                Checks.refused("start after way " + way, Checks.STATE, lab, () -> Checks.start(lab, 1));
+                Checks.refused("start after way " + way, Checks.STATE, lab, () -> lab.start(1));
                 Checks.refused("explore after way " + way, Checks.STATE, lab,
                         () -> lab.explore(1, 1, 1, 0));
             }
         }
     }
 
-    private static int change(RoundLab lab, int way) {
+    private static int change(Lab lab, int way) {
         switch (way) {
             case 0:
                 return lab.word(0);
@@ -139,14 +122,6 @@ public final class ProgramTest {
                 lab.clear();
                 return lab.count(0);
         }
-    }
-
-    private static void errorAt(int due, int... words) {
-        RoundLab lab = Checks.of(words);
-        String what = "check() of " + Arrays.toString(words);
-        Checks.due(what, due, lab::check);
-        Checks.due(what + " again", due, lab::check);
-        Checks.due("checked: " + what, due == 0 ? 1 : 0, () -> lab.count(1));
     }
 
     private static void heads() {
@@ -170,12 +145,6 @@ public final class ProgramTest {
         errorAt(0, 1, 5, 0, 1, 2, 3, 4, 0, 0, 0, 0, 0, 0);
         errorAt(0, 4, 2, 1, 1, 0, 0, 0, 0, 0, 0, 0, 0, 0, 0, 0, 0);
         errorAt(16, 4, 2, 1, 1, 0, 0, 0, 0, 0, 0, 0, 0, 0, 0, 0);
-    }
-
-    private static int[] withHead(int... rest) {
-        int[] words = Arrays.copyOf(HEAD, HEAD.length + rest.length);
-        System.arraycopy(rest, 0, words, HEAD.length, rest.length);
-        return words;
     }
 
     /** Every word from -3 to 120 as a message and as a next value, with as many parts as it has. */
@@ -223,18 +192,6 @@ public final class ProgramTest {
         }
     }
 
-    /** So many NOTs, and a number behind them. */
-    private static int[] nots(int howMany, int number) {
-        int[] words = new int[howMany + 1];
-        Arrays.fill(words, 29);
-        words[howMany] = number;
-        return words;
-    }
-
-    private static int[] joined(int[]... rows) {
-        return Arrays.stream(rows).flatMapToInt(Arrays::stream).toArray();
-    }
-
     private static void tooDeep() {
         int[] two = {0, 0};
         errorAt(0, joined(HEAD, nots(11, 1), two));
@@ -250,7 +207,7 @@ public final class ProgramTest {
     }
 
     private static void depths() {
-        RoundLab lab = Checks.checked(joined(new int[] {2, 2, 1, 1}, nots(11, 1), new int[] {100},
+        Lab lab = checked(joined(new int[] {2, 2, 1, 1}, nots(11, 1), new int[] {100},
                 nots(1, 35), new int[] {30, 1, 20, 1, 29, 1, 0}, nots(4, 38), new int[] {41, 34}));
         int[][] due = {{12, 1, 2}, {4, 5, 2}};
         for (int phase = 0; phase < 2; phase++) {
@@ -269,7 +226,7 @@ public final class ProgramTest {
     }
 
     private static void depthRefusals() {
-        RoundLab lab = Checks.of(BUILTINS[1]);
+        Lab lab = of(BUILTINS[1]);
         Checks.refused("deep, not checked", Checks.STATE, lab, () -> lab.deep(0, 0));
         Checks.refused("deep, not checked, no phase", Checks.STATE, lab, () -> lab.deep(9, 9));
         lab.check();
@@ -285,8 +242,8 @@ public final class ProgramTest {
     }
 
     private static void counts() {
-        RoundLab lab = Checks.checked(BUILTINS[0]);
-        Checks.start(lab, 4);
+        Lab lab = checked(BUILTINS[0]);
+        lab.start(4);
         for (int what : new int[] {-1, 6, Integer.MAX_VALUE, Integer.MIN_VALUE}) {
             Checks.refused("count(" + what + ")", Checks.ARGUMENT, lab, () -> lab.count(what));
         }

@@ -1,5 +1,5 @@
 /** Promises 7 to 13, and what promise 17 counts of a run. */
-public final class RunTest {
+public final class RunTest extends Programs {
     /** Message 101; variable 0 keeps the greatest message + 1, variable 1 the least one. */
     private static final int[] GREATEST_AND_LEAST = {1, 2, 15, 12, 101, 20, 37, 1, 36};
 
@@ -22,7 +22,7 @@ public final class RunTest {
     }
 
     private static void inputs() {
-        RoundLab lab = new RoundLab();
+        Lab lab = new Lab();
         for (int p = 0; p < 7; p++) {
             int process = p;
             Checks.due("input, first", 0, () -> lab.input(process, process + 9));
@@ -42,8 +42,8 @@ public final class RunTest {
     }
 
     private static void inputsAreForLaterRuns() {
-        RoundLab lab = Checks.checked(GREATEST_AND_LEAST);
-        Checks.inputs(lab, 4, 12, 13, 15);
+        Lab lab = checked(GREATEST_AND_LEAST);
+        lab.inputs(4, 12, 13, 15);
         lab.start(4);
         lab.input(0, 9);
         int[] due = {4, 12, 12, 12};
@@ -62,7 +62,7 @@ public final class RunTest {
     }
 
     private static void starts() {
-        RoundLab lab = Checks.checked(GREATEST_AND_LEAST);
+        Lab lab = checked(GREATEST_AND_LEAST);
         for (int n = 1; n <= 7; n++) {
             int all = n;
             lab.start(n);
@@ -76,17 +76,17 @@ public final class RunTest {
             Checks.due("decision of a new run", RoundLab.NONE, () -> lab.decided(0));
         }
         for (int n : new int[] {0, -1, 8, Integer.MIN_VALUE, Integer.MAX_VALUE}) {
-            Checks.refused("start(" + n + ")", Checks.ARGUMENT, lab, () -> Checks.start(lab, n));
+            Checks.refused("start(" + n + ")", Checks.ARGUMENT, lab, () -> lab.start(n));
         }
         lab.word(0);
-        Checks.refused("start(0), not checked", Checks.ARGUMENT, lab, () -> Checks.start(lab, 0));
-        Checks.refused("start(2), not checked", Checks.STATE, lab, () -> Checks.start(lab, 2));
+        Checks.refused("start(0), not checked", Checks.ARGUMENT, lab, () -> lab.start(0));
+        Checks.refused("start(2), not checked", Checks.STATE, lab, () -> lab.start(2));
         lab.check();
-        Checks.refused("start(2), with an error", Checks.STATE, lab, () -> Checks.start(lab, 2));
+        Checks.refused("start(2), with an error", Checks.STATE, lab, () -> lab.start(2));
     }
 
     private static void hearings() {
-        RoundLab lab = Checks.checked(GREATEST_AND_LEAST);
+        Lab lab = checked(GREATEST_AND_LEAST);
         lab.start(5);
         Checks.due("hear, first", 31, () -> lab.hear(2, 0));
         Checks.due("hear, second", 0, () -> lab.hear(2, 31));
@@ -102,8 +102,8 @@ public final class RunTest {
     }
 
     private static void hearingIsForOneRound() {
-        RoundLab lab = Checks.checked(GREATEST_AND_LEAST);
-        Checks.inputs(lab, 7, 3, 5);
+        Lab lab = checked(GREATEST_AND_LEAST);
+        lab.inputs(7, 3, 5);
         lab.start(3);
         lab.hear(0, 0b100);
         lab.hear(1, 0);
@@ -124,14 +124,14 @@ public final class RunTest {
 
     /** Two variables change places, and processes hand their values on round a ring. */
     private static void roundsAreAtOnce() {
-        RoundLab lab = Checks.checked(1, 3, 15, 15, 15, 101, 0, 102, 101);
+        Lab lab = checked(1, 3, 15, 15, 15, 101, 0, 102, 101);
         lab.input(0, 9);
         lab.start(1);
         lab.round();
         Checks.due("changed places: 1", 0, () -> lab.state(0, 1));
         Checks.due("changed places: 2", 9, () -> lab.state(0, 2));
-        RoundLab ring = Checks.checked(1, 2, 15, 15, 101, 0, 41, 24, 20, 31, 1, 32);
-        Checks.inputs(ring, 1, 2, 3);
+        Lab ring = checked(1, 2, 15, 15, 101, 0, 41, 24, 20, 31, 1, 32);
+        ring.inputs(1, 2, 3);
         ring.start(3);
         ring.round();
         for (int p = 0; p < 3; p++) {
@@ -142,7 +142,7 @@ public final class RunTest {
     }
 
     private static void phasesGoRound() {
-        RoundLab lab = Checks.checked(3, 2, 15, 15, 1, 4, 101, 2, 5, 101, 3, 6, 101);
+        Lab lab = checked(3, 2, 15, 15, 1, 4, 101, 2, 5, 101, 3, 6, 101);
         lab.start(2);
         for (int r = 0; r < 7; r++) {
             int done = r + 1;
@@ -154,7 +154,7 @@ public final class RunTest {
     }
 
     private static void rangesCut() {
-        RoundLab lab = Checks.checked(1, 5, 0, 1, 4, 15, 7, 22, 9, 9, 15, 15, 4, 22, 9, 9, 8);
+        Lab lab = checked(1, 5, 0, 1, 4, 15, 7, 22, 9, 9, 15, 15, 4, 22, 9, 9, 8);
         lab.input(0, 15);
         lab.start(1);
         Checks.due("an input, cut to 1", 1, () -> lab.state(0, 1));
@@ -169,9 +169,9 @@ public final class RunTest {
     }
 
     private static void sixtyRounds() {
-        RoundLab lab = Checks.checked(GREATEST_AND_LEAST);
+        Lab lab = checked(GREATEST_AND_LEAST);
         lab.start(7);
-        Checks.due("sixty rounds", 60, () -> Checks.rounds(lab, 60));
+        Checks.due("sixty rounds", 60, () -> lab.rounds(60));
         Checks.refused("round 61", Checks.STATE, lab, lab::round);
         Checks.due("count(3)", 60, () -> lab.count(3));
         lab.start(7);
@@ -179,7 +179,7 @@ public final class RunTest {
     }
 
     private static void noRun() {
-        RoundLab lab = Checks.checked(GREATEST_AND_LEAST);
+        Lab lab = checked(GREATEST_AND_LEAST);
         Checks.refused("hear", Checks.NO_ELEMENT, lab, () -> lab.hear(0, 0));
         Checks.refused("hear, no set", Checks.NO_ELEMENT, lab, () -> lab.hear(0, -1));
         Checks.refused("round", Checks.STATE, lab, lab::round);
@@ -191,7 +191,7 @@ public final class RunTest {
     }
 
     private static void wrongProcesses() {
-        RoundLab lab = Checks.checked(GREATEST_AND_LEAST);
+        Lab lab = checked(GREATEST_AND_LEAST);
         lab.start(7);
         lab.start(3);
         lab.round();
@@ -207,8 +207,8 @@ public final class RunTest {
     }
 
     private static void decisions() {
-        RoundLab lab = Checks.checked(1, 2, 15, 15, 0, 101, 101);
-        Checks.inputs(lab, 0, 1, 15);
+        Lab lab = checked(1, 2, 15, 15, 0, 101, 101);
+        lab.inputs(0, 1, 15);
         lab.start(3);
         Checks.due("decided, before", RoundLab.NONE, () -> lab.decided(2));
         lab.round();
@@ -219,22 +219,22 @@ public final class RunTest {
     }
 
     private static void messages() {
-        RoundLab lab = Checks.checked(1, 2, 15, 15, 20, 22, 8, 12, 100, 20, 100, 1, 101);
+        Lab lab = checked(1, 2, 15, 15, 20, 22, 8, 12, 100, 20, 100, 1, 101);
         lab.start(2);
         Checks.due("message, before", RoundLab.NONE, () -> lab.message(0));
         lab.hear(0, 0);
         lab.round();
         Checks.due("message, round 0", 96, () -> lab.message(0));
         Checks.due("message that not all hear", 96, () -> lab.message(1));
-        Checks.rounds(lab, 2);
+        lab.rounds(2);
         Checks.due("message, round 2", 98, () -> lab.message(0));
-        Checks.rounds(lab, 3);
+        lab.rounds(3);
         Checks.due("message, round 5", 99, () -> lab.message(0));
     }
 
     private static void searchLeavesTheRun() {
-        RoundLab lab = Checks.checked(GREATEST_AND_LEAST);
-        Checks.inputs(lab, 4, 9);
+        Lab lab = checked(GREATEST_AND_LEAST);
+        lab.inputs(4, 9);
         lab.start(2);
         lab.round();
         lab.hear(1, 1);

@@ -1,10 +1,7 @@
 import java.util.Arrays;
 
 /** Promises 14, 15 and what promise 17 counts of searches. */
-public final class SearchTest {
-    /** Each process decides its own input at once. */
-    private static final int[] OWN_INPUT = {1, 2, 4, 3, 101, 20, 101, 1, 101};
-
+public final class SearchTest extends Programs {
     public static void main(String[] args) {
         refusals();
         beginnings();
@@ -24,38 +21,16 @@ public final class SearchTest {
         Checks.finish();
     }
 
-    /** A search with its answer, its count of states and the run to its violation. */
-    private static void searched(RoundLab lab, int[] call, int answer, int states, int... trace) {
-        String what = "explore" + Arrays.toString(call);
-        Checks.due(what, answer, () -> lab.explore(call[0], call[1], call[2], call[3]));
-        Checks.due(what + ": states", states, () -> lab.count(4));
-        int rounds = answer > 0 ? trace.length / call[0] - 1 : RoundLab.NONE;
-        Checks.due(what + ": rounds", rounds, () -> lab.count(5));
-        for (int i = 0; i < trace.length; i++) {
-            int place = i;
-            Checks.due(what + ": trace " + i, trace[i], () -> lab.trace(place));
-        }
-        for (int i : new int[] {-1, trace.length, 17, 18, Integer.MIN_VALUE, Integer.MAX_VALUE}) {
-            if (i < 0 || i >= trace.length) {
-                Checks.refused(what + ": trace " + i, Checks.NO_ELEMENT, lab, () -> lab.trace(i));
-            }
-        }
-    }
-
-    private static int[] by(int n, int rounds, int d, int kind) {
-        return new int[] {n, rounds, d, kind};
-    }
-
     private static void refusals() {
         int[][] wrong = {
             {0, 1, 1, 0}, {4, 1, 1, 0}, {-1, 1, 1, 0}, {1, -1, 1, 0}, {1, 6, 1, 0}, {1, 1, 0, 0},
             {1, 1, 4, 0}, {1, 1, 1, -1}, {1, 1, 1, 4}, {Integer.MAX_VALUE, 1, 1, 0},
             {1, Integer.MIN_VALUE, 1, 0}, {1, 1, Integer.MAX_VALUE, 0}, {1, 1, 1, Integer.MIN_VALUE},
         };
-        RoundLab lab = Checks.checked(OWN_INPUT);
+        Lab lab = checked(OWN_INPUT);
         lab.start(3);
         lab.explore(2, 1, 2, 0);
-        RoundLab without = Checks.of(OWN_INPUT);
+        Lab without = of(OWN_INPUT);
         for (int[] call : wrong) {
             String what = "explore" + Arrays.toString(call);
             Checks.refused(what, Checks.ARGUMENT, lab,
@@ -70,20 +45,20 @@ public final class SearchTest {
     }
 
     private static void beginnings() {
-        RoundLab lab = Checks.checked(OWN_INPUT);
+        Lab lab = checked(OWN_INPUT);
         searched(lab, by(1, 0, 1, 0), 0, 1);
         searched(lab, by(1, 0, 3, 0), 0, 3);
         searched(lab, by(3, 0, 2, 3), 0, 8);
         searched(lab, by(3, 0, 3, 0), 0, 27);
         // With inputs that are cut to 0 only the values that were told tell states apart.
-        RoundLab cut = Checks.checked(1, 2, 4, 0, 101, 0, 0);
+        Lab cut = checked(1, 2, 4, 0, 101, 0, 0);
         searched(cut, by(2, 0, 3, 0), 0, 6);
         searched(cut, by(3, 0, 3, 0), 0, 7);
         searched(cut, by(3, 1, 3, 0), 0, 14);
     }
 
     private static void differentDecisions() {
-        RoundLab lab = Checks.checked(OWN_INPUT);
+        Lab lab = checked(OWN_INPUT);
         searched(lab, by(2, 1, 2, 0), 1, 5, 0, 1, 0, 0);
         searched(lab, by(2, 5, 2, 3), 1, 5, 0, 1, 3, 3);
         searched(lab, by(3, 2, 3, 2), 1, 28, 0, 0, 1, 1, 1, 1);
@@ -92,52 +67,46 @@ public final class SearchTest {
     }
 
     private static void noInput() {
-        RoundLab lab = Checks.checked(1, 2, 15, 3, 0, 3, 101);
+        Lab lab = checked(1, 2, 15, 3, 0, 3, 101);
         searched(lab, by(1, 1, 2, 0), 2, 2, 0, 0);
         searched(lab, by(2, 1, 3, 1), 2, 9, 0, 0, 3, 3);
         // An input that was told counts, though it is cut; what it is cut to does not.
-        RoundLab cut = Checks.checked(1, 2, 4, 0, 0, 1, 0);
+        Lab cut = checked(1, 2, 4, 0, 0, 1, 0);
         searched(cut, by(1, 1, 2, 0), 2, 3, 1, 0);
         searched(cut, by(2, 1, 2, 3), 2, 5, 1, 1, 3, 3);
-        RoundLab high = Checks.checked(1, 2, 15, 3, 0, 15, 101);
+        Lab high = checked(1, 2, 15, 3, 0, 15, 101);
         searched(high, by(1, 1, 3, 0), 2, 3, 0, 0);
-        RoundLab four = Checks.checked(1, 2, 15, 3, 0, 4, 101);
+        Lab four = checked(1, 2, 15, 3, 0, 4, 101);
         searched(four, by(1, 1, 3, 0), 2, 3, 0, 0);
     }
 
     private static void changedDecisions() {
-        RoundLab taken = Checks.checked(1, 2, 4, 3, 0, 29, 100, 101);
+        Lab taken = checked(1, 2, 4, 3, 0, 29, 100, 101);
         searched(taken, by(1, 5, 1, 0), 3, 2, 0, 0, 0);
         searched(taken, by(1, 1, 1, 0), 0, 2);
         // Where inputs differ, all decide by the number of the cycle.
-        RoundLab other = Checks.checked(1, 2, 4, 3, 101, 30, 25, 36, 37, 0, 20, 33, 1, 101);
+        Lab other = checked(1, 2, 4, 3, 101, 30, 25, 36, 37, 0, 20, 33, 1, 101);
         searched(other, by(2, 5, 2, 3), 3, 9, 0, 1, 3, 3, 3, 3);
     }
 
     private static void leastViolation() {
-        RoundLab oneOfAll = Checks.checked(1, 2, 15, 3, 0, 30, 33, 20, 8, 31, 1, 101);
+        Lab oneOfAll = checked(1, 2, 15, 3, 0, 30, 33, 20, 8, 31, 1, 101);
         searched(oneOfAll, by(2, 2, 1, 3), 1, 2, 0, 0, 3, 3, 3, 3);
         searched(oneOfAll, by(1, 2, 1, 3), 2, 2, 0, 1, 1);
-        RoundLab oneOfTwo = Checks.checked(1, 2, 15, 3, 0, 20, 8, 31, 101);
+        Lab oneOfTwo = checked(1, 2, 15, 3, 0, 20, 8, 31, 101);
         searched(oneOfTwo, by(2, 1, 1, 1), 1, 1, 0, 0, 3, 3);
         searched(oneOfTwo, by(1, 1, 1, 1), 2, 1, 0, 1);
     }
 
     /** The state that process 0 comes to by taking back its decision was found another way. */
     private static void violationInKnownState() {
-        RoundLab lab = Checks.checked(2, 2, 4, 3, 0, 35, 101, 0, 0, 101);
+        Lab lab = checked(2, 2, 4, 3, 0, 35, 101, 0, 0, 101);
         searched(lab, by(1, 2, 1, 0), 3, 4, 0, 1, 0);
         searched(lab, by(1, 1, 1, 0), 0, 3);
     }
 
-    /** Variable 2 becomes the set that was heard, by messages 1, 2 and 4. */
-    private static int[] sets(int rangeOfInput) {
-        return new int[] {1, 3, 4, rangeOfInput, 7, 30, 25, 31, 2, 4, 20, 31, 1, 0, 0,
-            20, 41, 0, 20, 41, 1, 41, 2};
-    }
-
     private static void kinds() {
-        RoundLab lab = Checks.checked(sets(3));
+        Lab lab = checked(sets(3));
         int[][] due = {{3, 2, 2, 2}, {17, 2, 8, 2}, {200, 65, 170, 2}};
         for (int n = 1; n <= 3; n++) {
             for (int kind = 0; kind <= 3; kind++) {
@@ -148,16 +117,16 @@ public final class SearchTest {
     }
 
     private static void roundsAreApart() {
-        RoundLab lab = Checks.checked(1, 2, 4, 3, 101, 100, 101);
+        Lab lab = checked(1, 2, 4, 3, 101, 100, 101);
         searched(lab, by(1, 5, 1, 0), 0, 6);
         searched(lab, by(3, 5, 3, 0), 0, 162);
     }
 
     private static void twoHundredStates() {
-        searched(Checks.checked(sets(1)), by(2, 2, 3, 0), 0, 200);
-        searched(Checks.checked(sets(3)), by(2, 2, 3, 0), RoundLab.NONE, 200);
-        searched(Checks.checked(sets(1)), by(2, 3, 3, 0), RoundLab.NONE, 200);
-        searched(Checks.checked(sets(0)), by(2, 2, 3, 0), 0, 198);
+        searched(checked(sets(1)), by(2, 2, 3, 0), 0, 200);
+        searched(checked(sets(3)), by(2, 2, 3, 0), RoundLab.NONE, 200);
+        searched(checked(sets(1)), by(2, 3, 3, 0), RoundLab.NONE, 200);
+        searched(checked(sets(0)), by(2, 2, 3, 0), 0, 198);
     }
 
     /** Two rounds find 200 states; in the third one the first state that is come to is wrong. */
@@ -168,25 +137,25 @@ public final class SearchTest {
         System.arraycopy(phase, 0, words, first.length, phase.length);
         System.arraycopy(new int[] {0, 3, 0, 0}, 0, words, first.length + phase.length, 4);
         words[0] = 3;
-        searched(Checks.checked(words), by(2, 3, 3, 0), 2, 200, 0, 0, 0, 0, 0, 0, 0, 0);
+        searched(checked(words), by(2, 3, 3, 0), 2, 200, 0, 0, 0, 0, 0, 0, 0, 0);
     }
 
     /** Who has heard process 1 decides wrongly when it hears two in the next round. */
     private static void firstWayCounts() {
-        RoundLab lab = Checks.checked(1, 3, 4, 3, 1, 31, 30, 27, 102, 26, 1, 35, 4, 0, 101, 40, 1);
+        Lab lab = checked(1, 3, 4, 3, 1, 31, 30, 27, 102, 26, 1, 35, 4, 0, 101, 40, 1);
         searched(lab, by(2, 3, 1, 0), 2, 9, 0, 0, 0, 2, 0, 3);
         searched(lab, by(3, 3, 1, 1), 2, 9, 0, 0, 0, 3, 3, 3, 3, 3, 3);
     }
 
     /** All decide wrongly in the last round that can be searched. */
     private static void longestTrace() {
-        RoundLab lab = Checks.checked(1, 2, 4, 3, 101, 30, 25, 33, 4, 4, 0, 101);
+        Lab lab = checked(1, 2, 4, 3, 101, 30, 25, 33, 4, 4, 0, 101);
         searched(lab, by(3, 5, 1, 3), 2, 5, 0, 0, 0, 7, 7, 7, 7, 7, 7, 7, 7, 7, 7, 7, 7, 7, 7, 7);
         searched(lab, by(3, 4, 1, 3), 0, 5);
     }
 
     private static void whatStaysOfASearch() {
-        RoundLab lab = Checks.checked(OWN_INPUT);
+        Lab lab = checked(OWN_INPUT);
         searched(lab, by(2, 1, 2, 0), 1, 5, 0, 1, 0, 0);
         lab.start(3);
         lab.round();
@@ -205,7 +174,7 @@ public final class SearchTest {
     }
 
     private static void builtins() {
-        RoundLab lab = new RoundLab();
+        Lab lab = new Lab();
         lab.builtin(0);
         lab.check();
         searched(lab, by(3, 3, 2, 0), 0, 108);

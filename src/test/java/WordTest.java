@@ -1,7 +1,7 @@
 import java.util.Arrays;
 
 /** What each word of an expression means, seen in messages (up to 99) and in next values. */
-public final class WordTest {
+public final class WordTest extends Programs {
     private static final int ADD = 20;
     private static final int SUBTRACT = 21;
     private static final int MULTIPLY = 22;
@@ -22,32 +22,20 @@ public final class WordTest {
         Checks.finish();
     }
 
-    /** The value of an expression as the message of process 0 of one, whose input is 13. */
-    private static void worth(int due, int... expression) {
-        int[] words = {1, 2, 15, 15};
-        int[] all = Arrays.copyOf(words, words.length + expression.length + 2);
-        System.arraycopy(expression, 0, all, words.length, expression.length);
-        RoundLab lab = Checks.checked(all);
-        lab.input(0, 13);
-        lab.start(1);
-        lab.round();
-        Checks.due("the value of " + Arrays.toString(expression), due, () -> lab.message(0));
-    }
-
     private static void numbersAndVariables() {
         for (int number = 0; number <= 15; number++) {
             worth(number, number);
         }
         worth(0, 100);
         worth(13, 101);
-        RoundLab lab = Checks.checked(1, 5, 15, 15, 15, 15, 15, 104, 1, 102, 103, 104, 9);
+        Lab lab = checked(1, 5, 15, 15, 15, 15, 15, 104, 1, 102, 103, 104, 9);
         lab.input(0, 6);
         lab.start(1);
-        Checks.rounds(lab, 3);
+        lab.rounds(3);
         Checks.due("three variables on", 9, () -> lab.state(0, 2));
         Checks.due("a message of variable 4", 9, () -> lab.message(0));
         Checks.due("variable 1", 0, () -> lab.state(0, 1));
-        Checks.rounds(lab, 1);
+        lab.rounds(1);
         Checks.due("variable 1, one on", 9, () -> lab.state(0, 1));
     }
 
@@ -103,7 +91,7 @@ public final class WordTest {
 
     private static void whoAndHowMany() {
         for (int n = 1; n <= 7; n++) {
-            RoundLab lab = Checks.checked(1, 2, 15, 15, 20, 22, 31, 10, 32, 31, 32);
+            Lab lab = checked(1, 2, 15, 15, 20, 22, 31, 10, 32, 31, 32);
             lab.start(n);
             lab.round();
             for (int p = 0; p < n; p++) {
@@ -117,7 +105,7 @@ public final class WordTest {
 
     private static void cyclesAndLeaders() {
         for (int phases = 1; phases <= 4; phases++) {
-            RoundLab lab = new RoundLab();
+            Lab lab = new Lab();
             for (int word : new int[] {phases, 2, 15, 15}) {
                 lab.word(word);
             }
@@ -137,19 +125,6 @@ public final class WordTest {
                 Checks.due("LEADER, round " + r, cycle % 7, () -> lab.state(3, 1));
             }
         }
-    }
-
-    /** A run in which messages are these values, and process 0 hears a set by an expression. */
-    private static void hears(int due, int[] values, int set, int... expression) {
-        int[] all = Arrays.copyOf(new int[] {1, 2, 15, 15, 101}, 5 + expression.length + 1);
-        System.arraycopy(expression, 0, all, 5, expression.length);
-        RoundLab lab = Checks.checked(all);
-        Checks.inputs(lab, values);
-        lab.start(values.length);
-        lab.hear(0, set);
-        lab.round();
-        Checks.due(Arrays.toString(expression) + " of " + Arrays.toString(values) + " by " + set,
-                due, () -> lab.state(0, 0));
     }
 
     private static void heardSummaries() {
@@ -217,8 +192,8 @@ public final class WordTest {
         hears(1, values, 0, 29, 35);
         // Nor does one that hears none learn what the one before it has heard.
         for (int word = 35; word <= 39; word++) {
-            RoundLab lab = Checks.checked(1, 2, 15, 15, 101, word, 101);
-            Checks.inputs(lab, 7, 7);
+            Lab lab = checked(1, 2, 15, 15, 101, word, 101);
+            lab.inputs(7, 7);
             lab.start(2);
             lab.hear(1, 0);
             lab.round();
