@@ -169,6 +169,9 @@ public final class EdgesOfSearchesTest extends Programs {
             // Process 0 decides nothing, the two others decide what each has.
             Lab others = checked(1, 2, 4, 3, 101, 30, 31, 20, 101, 1, 0, 101);
             searched(others, by(3, 1, 2, 3), 1, 9, 0, 0, 1, 7, 7, 7);
+            // The last process decides as the one ahead of it does.
+            Lab pair = checked(1, 2, 4, 3, 101, 20, 41, 30, 31, 1, 0, 1, 101);
+            searched(pair, by(3, 1, 2, 3), 1, 10, 0, 1, 0, 7, 7, 7);
             // Processes 0 and 2 alone.
             Lab outer = checked(1, 2, 4, 3, 101, 30, 25, 31, 1, 0, 20, 101, 1, 101);
             searched(outer, by(3, 1, 2, 3), 1, 9, 0, 0, 1, 7, 7, 7);
@@ -200,11 +203,14 @@ public final class EdgesOfSearchesTest extends Programs {
             Lab lab = checked(1, 2, 4, 3, 0, 29, 100, 101);
             searched(lab, by(1, 1, 1, 3), 0, 2);
             searched(lab, by(1, 2, 1, 3), 3, 2, 0, 1, 1);
-            // Only the last process takes its decision back.
-            Lab last = checked(1, 2, 4, 3, 0, 30, 27, 33, 25, 31, 2, 0, 1, 101);
-            searched(last, by(2, 5, 1, 3), 0, 6);
-            searched(last, by(3, 5, 1, 3), 3, 2, 0, 0, 0, 7, 7, 7, 7, 7, 7);
-            // That comes from none to a decision is none of these.
+            // Only one process takes its decision back.
+            for (int p = 0; p < 3; p++) {
+                Lab one = checked(1, 2, 4, 3, 0, 30, 27, 33, 25, 31, p, 0, 1, 101);
+                searched(one, by(3, 5, 1, 3), 3, 2, 0, 0, 0, 7, 7, 7, 7, 7, 7);
+            }
+            Lab none = checked(1, 2, 4, 3, 0, 30, 27, 33, 25, 31, 3, 0, 1, 101);
+            searched(none, by(3, 5, 1, 3), 0, 6);
+            // To come from none to a decision is no violation.
             searched(checked(1, 2, 4, 3, 0, 30, 33, 1, 0, 101), by(3, 5, 1, 3), 0, 6);
         });
         is("Terms", "when a state is come to: also one that was found before", () -> {

@@ -200,6 +200,14 @@ public final class ModelTest {
         }
     }
 
+    /** One of all ints, near an end of them or at it more often than not. */
+    private int anyNumber() {
+        int few = dice.below(4);
+        int[] numbers = {Integer.MIN_VALUE + few, Integer.MAX_VALUE - few, 1 << 3 * (few + 5),
+            dice.below(1 << 16) << 16 | dice.below(1 << 16)};
+        return numbers[dice.below(4)];
+    }
+
     /** 512 calls of all methods in any order, with numbers of which some are wrong. */
     private void calls(int number) {
         Model model = new Model();
@@ -207,8 +215,8 @@ public final class ModelTest {
         List<Integer> words = program(3);
         int given = 0;
         for (int c = 0; lab.callsLeft() > 0; c++) {
-            int a = dice.below(10) - 1;
-            int b = dice.oneOf(4) ? dice.below(128) : dice.below(6) - 1;
+            int a = dice.oneOf(15) ? anyNumber() : dice.below(10) - 1;
+            int b = dice.oneOf(15) ? anyNumber() : dice.oneOf(4) ? dice.below(128) : dice.below(6) - 1;
             String what = "call " + c + " of row " + number + " with " + a + ", " + b;
             switch (dice.below(24)) {
                 case 0 -> {
