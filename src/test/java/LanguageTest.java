@@ -10,7 +10,10 @@ import java.util.ArrayList;
 import java.util.Arrays;
 import java.util.HashSet;
 import java.util.List;
+import java.util.Map;
 import java.util.Set;
+import java.util.TreeMap;
+import java.util.TreeSet;
 import java.util.regex.Matcher;
 import java.util.regex.Pattern;
 
@@ -21,6 +24,12 @@ public final class LanguageTest {
     private static final int MOST_LINES = 60;
     private static final int MOST_CLASSES = 12;
     private static final int MOST_FIELDS = 20;
+    private static final int MOST_OPEN_CALLS = 8;
+
+    private static final String NO_STATEMENT = "(?!(?:if|for|while|switch|return|throw|new)\\b)";
+    private static final Pattern HEAD = Pattern.compile(
+            " {4}(?: {4})?" + NO_STATEMENT + "(?:[\\w\\[\\]]+ )*(\\w+)\\([^;=]*[{)]");
+    private static final Pattern CALL = Pattern.compile("\\b" + NO_STATEMENT + "(\\w+)\\(");
 
     private static final Set<Class<?>> CONSTANTS = Set.of(int.class, long.class, boolean.class,
             char.class, String.class, int[].class, long[].class, char[].class, byte[].class);
@@ -37,7 +46,7 @@ public final class LanguageTest {
     public static void main(String[] args) throws IOException {
         List<String> lines = Files.readAllLines(PROGRAM);
         text(lines);
-        lengths(lines);
+        methods(lines);
         classes();
         Checks.finish();
     }
@@ -70,16 +79,45 @@ public final class LanguageTest {
     }
 
     /** A method's lines: from its head, one or two steps in, to the brace that stands as far in. */
-    private static void lengths(List<String> lines) {
+    private static void methods(List<String> lines) {
+        Map<String, Set<String>> called = new TreeMap<>();
         for (int i = 0; i < lines.size(); i++) {
-            String head = lines.get(i);
-            if (head.matches(" {4}( {4})?\\w[^=;]*\\(.*") && !head.contains(" class ")) {
-                String end = head.replaceAll("\\S.*", "") + "}";
+            Matcher head = HEAD.matcher(lines.get(i));
+            if (head.matches()) {
+                String end = lines.get(i).replaceAll("\\S.*", "") + "}";
                 int length = lines.subList(i, lines.size()).indexOf(end) + 1;
-                isFine("rule 11: " + length + " lines of " + head.trim(),
+                isFine("rule 11: " + length + " lines of " + lines.get(i).trim(),
                         length > 0 && length <= MOST_LINES);
+                called.computeIfAbsent(head.group(1), name -> new TreeSet<>())
+                        .addAll(calledIn(lines.subList(i + 1, i + Math.max(1, length))));
             }
         }
+        for (String name : called.keySet()) {
+            int open = openCalls(name, called, new ArrayList<>());
+            isFine("rule 11: " + open + " calls open at once from " + name, open <= MOST_OPEN_CALLS);
+        }
+    }
+
+    private static Set<String> calledIn(List<String> body) {
+        Set<String> names = new TreeSet<>();
+        Matcher call = CALL.matcher(withoutComments(body));
+        while (call.find()) {
+            names.add(call.group(1));
+        }
+        return names;
+    }
+
+    /** How many calls stand open at once at most; a method that calls itself counts once. */
+    private static int openCalls(String name, Map<String, Set<String>> called, List<String> open) {
+        int most = 0;
+        open.add(name);
+        for (String next : called.getOrDefault(name, Set.of())) {
+            boolean again = open.contains(next);
+            isFine("rule 8: " + name + " calls " + next, !again || next.equals(name));
+            most = Math.max(most, again ? 0 : openCalls(next, called, open));
+        }
+        open.remove(name);
+        return 1 + most;
     }
 
     private static void classes() {
